@@ -883,6 +883,7 @@ public final class CushionCourt {
         static final int NO_JUDGE = 4;
 
         static final int MOST_NUMBER = 9999;
+        static final int COMPARING = 4;
 
         final byte[] bytes;
         final Book book;
@@ -1152,7 +1153,7 @@ public final class CushionCourt {
                 refuse(CANNOT_STAND);
                 return false;
             }
-            boolean compares = strength == strength(LESS);
+            boolean compares = strength == COMPARING;
             release(compares ? strength + 1 : strength);
             if (compares && strengthHeld() == strength) {
                 refuse(CANNOT_STAND);
@@ -1172,24 +1173,28 @@ public final class CushionCourt {
             return kind == WORD && value == WORD_AND ? AND : OPEN;
         }
 
-        /** How tight a sign binds; 0 of what doesn't join two sides. */
+        /** How tight a sign binds; 0 of what joins no sides. */
         private static int strength(int sign) {
-            if (sign <= BY) {
-                return sign == BY ? 6 : 0;
+            switch (sign) {
+                case TIMES:
+                case BY:
+                    return 6;
+                case PLUS:
+                case MINUS:
+                    return 5;
+                case NOT:
+                    return 3;
+                case AND:
+                    return 2;
+                case OR:
+                    return 1;
+                case OPEN:
+                case CLOSE:
+                case STOP:
+                    return 0;
+                default:
+                    return COMPARING;
             }
-            if (sign == TIMES) {
-                return 6;
-            }
-            if (sign <= PLUS) {
-                return 5;
-            }
-            if (sign <= LESS) {
-                return 4;
-            }
-            if (sign == NOT) {
-                return 3;
-            }
-            return sign == AND ? 2 : 1;
         }
 
         private int strengthHeld() {
