@@ -8,6 +8,7 @@ public final class CushionCourt {
 
     private static final int MOST_BYTES = 700;
     private static final int MOST_JUDGES = 5;
+    private static final int ALL_CUSHIONS = (1 << MOST_JUDGES) - 1;
     private static final int MOST_CASES = 10;
     private static final int MOST_CLERKS = 5;
     private static final int MOST_DAMPS = 8;
@@ -207,7 +208,7 @@ public final class CushionCourt {
             case 3:
                 return now.size[cushion];
             case 4:
-                return now.keptIn[cushion] ? 1 : 0;
+                return now.isKeptIn(cushion) ? 1 : 0;
             case 5:
                 return heardBy(judge);
             default:
@@ -274,10 +275,10 @@ public final class CushionCourt {
             return false;
         }
         int cushion = now.holds[judge];
-        if (now.keptIn[cushion] == is) {
+        if (now.isKeptIn(cushion) == is) {
             return false;
         }
-        now.keptIn[cushion] = is;
+        now.setKeptIn(cushion, is);
         deeds.note(Deeds.KEPT, cushion, 0);
         return true;
     }
@@ -373,9 +374,9 @@ public final class CushionCourt {
         int aired = daysToMonday() + WEEK * monday;
         int last = daysToMonday() + WEEK * (n - 1);
         beginTrial();
-        trial.keepAll(true);
+        trial.keptIn = ALL_CUSHIONS;
         for (int i = 0; i <= last; i++) {
-            trial.keptIn[cushion] = i != aired;
+            trial.setKeptIn(cushion, i != aired);
             term.passDay(trial);
         }
         return trial.knownInAll() - now.knownInAll();
@@ -533,7 +534,7 @@ public final class CushionCourt {
             return 0;
         }
         beginTrial();
-        trial.keptIn[cushion] = false;
+        trial.setKeptIn(cushion, false);
         term.pass(trial, daysToMonday());
         for (int mondays = 1; mondays <= MOST_RESTUFF_MONDAYS; mondays++) {
             term.passDay(trial);
@@ -683,7 +684,7 @@ public final class CushionCourt {
         beginTrial();
         switch (what) {
             case 0:
-                trial.keepAll(false);
+                trial.keptIn = 0;
                 break;
             case 1:
                 term.damp = 0;
@@ -1333,12 +1334,12 @@ public final class CushionCourt {
     /** What is so on a day: what cases came to, where feathers lie, who knows what. */
     private static final class World {
         int day;
+        int keptIn;
         final int[] before = new int[MOST_CASES];
         final int[] thought = new int[MOST_CASES];
         final int[] said = new int[MOST_CASES];
         final int[] fate = new int[MOST_CASES];
         final int[] holds = new int[MOST_JUDGES];
-        final boolean[] keptIn = new boolean[MOST_JUDGES];
         final int[] size = new int[MOST_JUDGES];
         final int[] feathers = new int[MOST_JUDGES * MOST_FEATHERS];
         final int[] heard = new int[MOST_CLERKS];
@@ -1348,6 +1349,7 @@ public final class CushionCourt {
 
         void begin(Book book) {
             day = 0;
+            keptIn = 0;
             for (int i = 0; i < MOST_CASES; i++) {
                 before[i] = book.before[i];
                 thought[i] = NONE;
@@ -1356,7 +1358,6 @@ public final class CushionCourt {
             }
             for (int i = 0; i < MOST_JUDGES; i++) {
                 holds[i] = i;
-                keptIn[i] = false;
                 size[i] = 0;
             }
             for (int i = 0; i < MOST_CLERKS; i++) {
@@ -1366,12 +1367,12 @@ public final class CushionCourt {
 
         void copyFrom(World other) {
             day = other.day;
+            keptIn = other.keptIn;
             System.arraycopy(other.before, 0, before, 0, MOST_CASES);
             System.arraycopy(other.thought, 0, thought, 0, MOST_CASES);
             System.arraycopy(other.said, 0, said, 0, MOST_CASES);
             System.arraycopy(other.fate, 0, fate, 0, MOST_CASES);
             System.arraycopy(other.holds, 0, holds, 0, MOST_JUDGES);
-            System.arraycopy(other.keptIn, 0, keptIn, 0, MOST_JUDGES);
             System.arraycopy(other.size, 0, size, 0, MOST_JUDGES);
             System.arraycopy(other.feathers, 0, feathers, 0, MOST_JUDGES * MOST_FEATHERS);
             System.arraycopy(other.heard, 0, heard, 0, MOST_CLERKS);
@@ -1383,10 +1384,13 @@ public final class CushionCourt {
             holds[other] = cushion;
         }
 
-        void keepAll(boolean is) {
-            for (int i = 0; i < MOST_JUDGES; i++) {
-                keptIn[i] = is;
-            }
+        boolean isKeptIn(int cushion) {
+            return (keptIn >> cushion & 1) != 0;
+        }
+
+        void setKeptIn(int cushion, boolean is) {
+            int bit = 1 << cushion;
+            keptIn = is ? keptIn | bit : keptIn & ~bit;
         }
 
         void lay(int cushion, int cause) {
@@ -1635,7 +1639,7 @@ public final class CushionCourt {
             }
             if (world.day % WEEK == 0) {
                 for (int i = 0; i < book.judges; i++) {
-                    if (!world.keptIn[world.holds[i]]) {
+                    if (!world.isKeptIn(world.holds[i])) {
                         air(world, i, moist);
                     }
                 }
@@ -1732,7 +1736,7 @@ public final class CushionCourt {
                     world.swap(one[at], other[at]);
                     break;
                 case KEPT:
-                    world.keptIn[one[at]] = !world.keptIn[one[at]];
+                    world.setKeptIn(one[at], !world.isKeptIn(one[at]));
                     break;
                 case RESTUFFED:
                     world.refill(one[at], other[at]);

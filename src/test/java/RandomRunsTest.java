@@ -71,23 +71,42 @@ public final class RandomRunsTest {
         }
     }
 
+    private int oneOf(int many) {
+        return random.nextInt(20) == 0 ? wrongFor(many) : random.nextInt(Math.max(1, many));
+    }
+
     private int judge() {
-        return random.nextInt(20) == 0 ? random.nextInt(8) - 2 : random.nextInt(Math.max(1, plain.count(0)));
+        return oneOf(plain.count(0));
     }
 
     private int cause() {
-        return random.nextInt(20) == 0 ? random.nextInt(13) - 2 : random.nextInt(Math.max(1, plain.count(1)));
+        return oneOf(plain.count(1));
     }
 
     private int clerk() {
-        return random.nextInt(20) == 0 ? random.nextInt(8) - 2 : random.nextInt(Math.max(1, plain.count(2)));
+        return oneOf(plain.count(2));
+    }
+
+    /** Mostly just beyond what there is, or at the ends of all numbers. */
+    private int wrongFor(int many) {
+        int[] ends = {Integer.MIN_VALUE, Integer.MAX_VALUE, Integer.MAX_VALUE - 6, random.nextInt()};
+        return random.nextInt(4) == 0 ? ends[random.nextInt(4)] : random.nextInt(many + 5) - 2;
     }
 
     private int span() {
-        switch (random.nextInt(8)) {
+        switch (random.nextInt(40)) {
+            case 39:
+                return wrongFor(100);
+            case 38:
+            case 37:
+            case 36:
             case 0:
                 return random.nextInt(103) - 2;
             case 1:
+            case 2:
+            case 3:
+            case 4:
+            case 5:
                 return random.nextInt(40);
             default:
                 return random.nextInt(10);
@@ -95,7 +114,7 @@ public final class RandomRunsTest {
     }
 
     private int upTo(int most) {
-        return random.nextInt(20) == 0 ? random.nextInt(most + 5) - 2 : random.nextInt(most + 1);
+        return oneOf(most + 1);
     }
 
     private void call() {
@@ -301,11 +320,11 @@ public final class RandomRunsTest {
                         plain.find(cause, judge, is));
                 break;
             case 2:
-                int found = random.nextInt(plain.count(10) + 2) - 1;
+                int found = random.nextInt(3) == 0 ? wrongFor(plain.count(10)) : oneOf(plain.count(10));
                 due("strike " + found, court.strike(found), plain.strike(found));
                 break;
             case 3:
-                int n = random.nextInt(plain.count(10) + 4) - 2;
+                int n = random.nextInt(3) == 0 ? wrongFor(plain.count(10)) : oneOf(plain.count(10));
                 due("known " + n, one(court.known(n)), one(plain.known(n)));
                 break;
             case 4:

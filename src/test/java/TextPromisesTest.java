@@ -386,6 +386,9 @@ public final class TextPromisesTest {
         expression("1000*1000*1000*1000", 1000000000000L);
         expression("1000*1000*1000*1000+1", Checks.ERROR);
         expression("1000*1000*1000*1000-1", 999999999999L);
+        expression("1000*1000*1000*1000-1+1", 1000000000000L);
+        expression("1-1000*1000*1000*1000+(0-1)", -1000000000000L);
+        expression("1-1000*1000*1000*1000+(0-2)", Checks.ERROR);
         expression("0-1000*1000*1000*1000", -1000000000000L);
         expression("0-1000*1000*1000*1000-1", Checks.ERROR);
         expression("(0-1000)*1000*1000*1000", -1000000000000L);
