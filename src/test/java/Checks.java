@@ -81,6 +81,51 @@ final class Checks {
         due("place in " + text, court.fault(1), place);
     }
 
+    /** The same, with the promise and the case that it is about. */
+    void fault(String what, String text, int why, int place) {
+        CushionCourt court = new CushionCourt();
+        int lines = tell(court, text);
+        due(what + ", text of " + text, lines >= 0, why == 0);
+        due(what + ", fault of " + text, court.fault(0), why);
+        due(what + ", place in " + text, court.fault(1), place);
+    }
+
+    void fine(String what, String text) {
+        fault(what, text, 0, CushionCourt.NONE);
+    }
+
+    /** All that can be looked up and that calls may change, to tell whether a refused one changed nothing. */
+    static String state(CushionCourt court) {
+        StringBuilder state = new StringBuilder();
+        for (int what = 0; what <= 12; what++) {
+            state.append(court.count(what)).append(' ');
+        }
+        for (int i = 0; i < court.count(1); i++) {
+            for (int what = 0; what <= 5; what++) {
+                state.append(cause(court, i, what)).append(',');
+            }
+        }
+        for (int i = 0; i < court.count(0); i++) {
+            for (int what = 0; what <= 5; what++) {
+                state.append(court.judge(i, what)).append(';');
+            }
+            for (int k = 0; k < court.judge(i, 3); k++) {
+                state.append(court.feather(i, k)).append('.');
+            }
+        }
+        for (int i = 0; i < court.count(2); i++) {
+            state.append(court.knows(i)).append('/');
+        }
+        return state.append(court.ways()).toString();
+    }
+
+    void same(String what, String got, String want) {
+        if (!got.equals(want)) {
+            System.out.println(what + " is " + got + ", due is " + want);
+        }
+        due(what, got.equals(want), true);
+    }
+
     static int cause(CushionCourt court, int cause, int what) {
         try {
             return court.cause(cause, what);
