@@ -247,13 +247,11 @@ public final class CushionCourt {
             if (!isJudge(which)) {
                 return Long.MIN_VALUE;
             }
-            term.asTold();
             term.seeCushion(now, which, told.moistOn(now.day));
         } else if (what == THINK || what == SAY) {
             if (!isCase(which)) {
                 return Long.MIN_VALUE;
             }
-            term.asTold();
             term.seeCase(now, which, now.before[which], told.moistOn(now.day));
         } else {
             return Long.MIN_VALUE;
@@ -358,7 +356,7 @@ public final class CushionCourt {
         for (int cushion = all ? 0 : what; cushion < end; cushion++) {
             int least = Integer.MAX_VALUE;
             for (int monday = 0; monday < n; monday++) {
-                int heard = heardOf(cushion, monday, n);
+                int heard = heardOf(cushion, monday);
                 if (heard < least) {
                     least = heard;
                     best = monday;
@@ -369,13 +367,12 @@ public final class CushionCourt {
         return all ? sum : best;
     }
 
-    /** What clerks know more, if just this cushion is aired, on just this one of n Mondays. */
-    private int heardOf(int cushion, int monday, int n) {
+    /** What clerks know more, if just this cushion is aired, on just this Monday; behind it nothing is heard. */
+    private int heardOf(int cushion, int monday) {
         int aired = daysToMonday() + WEEK * monday;
-        int last = daysToMonday() + WEEK * (n - 1);
         beginTrial();
         trial.keptIn = ALL_CUSHIONS;
-        for (int i = 0; i <= last; i++) {
+        for (int i = 0; i <= aired; i++) {
             trial.setKeptIn(cushion, i != aired);
             term.passDay(trial);
         }
@@ -416,7 +413,6 @@ public final class CushionCourt {
         }
         int guilty = 0;
         int moist = told.moistOn(now.day);
-        term.asTold();
         for (int i = 0; i < told.judges; i++) {
             term.seeCase(now, cause, i, moist);
             if (mind.thinksGuilty(told.laws)) {
@@ -1503,8 +1499,8 @@ public final class CushionCourt {
             seen[6] = day;
         }
 
+        // Without a case there is nothing to be far from LEAN.
         void seeNoCase() {
-            seen[2] = 0;
             seen[5] = 0;
         }
 

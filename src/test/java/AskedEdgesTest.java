@@ -1,3 +1,5 @@
+import java.math.BigInteger;
+
 /**
  * Boundary cases of promises 17 to 26, 29, 30 and 36 to 38 (Terms, ==== 3): what comes, what is best, what might be.
  * A method for each sentence or part of one, which stands above it as a remark.
@@ -29,6 +31,7 @@ public final class AskedEdgesTest {
         promise19Today();
         promise19ThisMondayAlone();
         promise19Bits();
+        mondaysOfLaterWeeks();
         promise20What();
         promise20NotSoMany();
         promise20ItCannotBe();
@@ -67,6 +70,7 @@ public final class AskedEdgesTest {
         promise37NoSuchOnes();
         promise37AtLeast();
         promise37Numbers();
+        promise37Seeds();
         promise37OneBehindAnother();
         promise38NoSuchOnes();
         promise38NoSuchJudge();
@@ -222,7 +226,8 @@ public final class AskedEdgesTest {
         due("18 Tuesday: the next Monday, not the last one", court.airing(1, 5), 1);
         CushionCourt first = Checks.court(feathers(1, 0, "clerk k 1 0;"));
         due("18 DAY 0 is a Monday", first.airing(1, 5), 1);
-        due("18 DAY 0 is the first of two", Checks.court(feathers(1, 0, "cause z a 1 10;clerk k 1 0;")).airing(2, 0), 1);
+        CushionCourt two = Checks.court(feathers(1, 0, "cause z a 1 10;clerk k 1 0;"));
+        due("18 DAY 0 is the first of two", two.airing(2, 0), 1);
     }
 
     // 18: "by the end of the last one".
@@ -318,7 +323,34 @@ public final class AskedEdgesTest {
         due("19 no text", new CushionCourt().away(), 0);
         due("19 the first and the fifth", Checks.court(feathers(1, 0,
                 "clerk a 1 0;clerk b 0 9;clerk c 2 9;clerk d 126 9;clerk e 127 0;")).away(), 17);
-        due("19 all", Checks.court(feathers(1, 0, "clerk a 1 0;clerk b 1 0;clerk c 1 0;clerk d 1 0;clerk e 1 0;")).away(), 31);
+        due("19 all", Checks.court(feathers(1, 0,
+                "clerk a 1 0;clerk b 1 0;clerk c 1 0;clerk d 1 0;clerk e 1 0;")).away(), 31);
+    }
+
+    // 18, 19, 26: "(today's, if it is one)" in weeks far behind the first one, up to the last DAY.
+    private static void mondaysOfLaterWeeks() {
+        String text = feathers(2, 1, "clerk k 1 9;law fly day=21 or day=28;");
+        for (int day = 15; day <= 29; day++) {
+            CushionCourt court = Checks.court(text, day);
+            due("19 away on DAY " + day, court.away(), day <= 28 ? 1 : 0);
+            due("18 airing on DAY " + day, court.airing(1, 5), day <= 28 ? 1 : 0);
+            due("18 which of two on DAY " + day, court.airing(2, 0), day > 21 && day <= 28 ? 1 : 0);
+            due("26 empties on DAY " + day, court.empties(0), day > 28 ? 0 : day > 21 ? 1 : 2);
+        }
+        CushionCourt last = Checks.court(feathers(1, 1, "clerk k 1 9;"));
+        last.keepIn(0, true);
+        for (int i = 0; i < 100; i++) {
+            last.days(99);
+        }
+        last.keepIn(0, false);
+        due("19 away on DAY 9900", last.away(), 1);
+        due("18 airing on DAY 9900", last.airing(4, 5), 1);
+        due("26 empties on DAY 9900", last.empties(0), 1);
+        due("29 learns on DAY 9900, a Wednesday", last.learns(0, 99), 6);
+        due("17 ahead on DAY 9900", last.ahead(99, 3), 1);
+        due("30 plump on DAY 9900", last.plump(0, 99), 0);
+        due("37 chance on DAY 9900", last.chance(1, 99, 1), 10);
+        due("38 tried on DAY 9900", last.tried(0, 0, 99), 1);
     }
 
     // 20: "what 0 .. 5 .., 6 ..; NONE for another what".
@@ -368,8 +400,8 @@ public final class AskedEdgesTest {
 
     // 20: "the first six CASES that are to come (by numbers)".
     private static void promise20FirstSix() {
-        String text = "judge a 10 0;judge b 50 0;judge c 90 0;cause a a 3 10;cause b a 2 10;cause c a 0 10;cause d a 2 50;"
-                + "cause e a 2 50;cause f a 2 90;cause g a 1 90;cause h a 1 10;";
+        String text = "judge a 10 0;judge b 50 0;judge c 90 0;cause a a 3 10;cause b a 2 10;cause c a 0 10;"
+                + "cause d a 2 50;cause e a 2 50;cause f a 2 90;cause g a 1 90;cause h a 1 10;";
         // The third one of GRAVE 10 is 40 too far from b, and one of GRAVE 50 makes room there, 40 from c.
         CushionCourt court = Checks.court(text);
         due("20 six of eight", court.given(6), 80);
@@ -406,8 +438,8 @@ public final class AskedEdgesTest {
             text.append("cause ").append(name).append(" a 1 0;");
         }
         due("20 greatest sum", Checks.court(text.toString()).given(6), 594);
-        due("20 greatest sum, above", Checks.court(text.toString().replace(" 99 0;", " 0 0;").replace(" 1 0;", " 1 99;"))
-                .given(6), 594);
+        String above = text.toString().replace(" 99 0;", " 0 0;").replace(" 1 0;", " 1 99;");
+        due("20 greatest sum, above", Checks.court(above).given(6), 594);
     }
 
     // 21: "NONE: no such ones".
@@ -469,7 +501,7 @@ public final class AskedEdgesTest {
         due("22 less grave", Checks.court(judges + "cause p a 0 10;cause q b 0 11;", 1).clashes(), 1);
         due("22 as grave", Checks.court(judges + "cause p a 0 10;cause q b 0 10;", 1).clashes(), 0);
         due("22 more grave", Checks.court(judges + "cause p a 0 11;cause q b 0 10;", 1).clashes(), 0);
-        due("22 the other way round by numbers", Checks.court(judges + "cause q b 0 11;cause p a 0 10;", 1).clashes(), 1);
+        due("22 the other way round", Checks.court(judges + "cause q b 0 11;cause p a 0 10;", 1).clashes(), 1);
         due("22 both guilty", Checks.court(judges + "cause p a 0 10;cause q a 0 11;", 1).clashes(), 0);
         due("22 both not", Checks.court(judges + "cause p b 0 10;cause q b 0 11;", 1).clashes(), 0);
         CushionCourt court = Checks.court(judges + "cause p a 0 10;cause q b 1 11;", 1);
@@ -757,6 +789,7 @@ public final class AskedEdgesTest {
         due("36 the first", Checks.court("judge a 0 0;law say lean=0;cause p a 0 1;", 1).leans(0), 1);
         due("36 the last", Checks.court("judge a 90 0;law say lean=90;cause p a 0 1;", 1).leans(0), 512);
         due("36 no eleventh", Checks.court("judge a 99 0;law say lean>90;cause p a 0 1;", 1).leans(0), 0);
+        due("36 all of ten cases", Checks.court("judge a 50 0;" + cases("a", 10, 0), 1).leans(0), 0b1111111110);
         due("36 all of two cases", Checks.court("judge a 50 0;cause p a 0 45;cause q a 0 55;", 1).leans(0), 0b100000);
     }
 
@@ -803,8 +836,8 @@ public final class AskedEdgesTest {
         due("37 of none", new CushionCourt().chance(1, 1, 1), 0);
     }
 
-    // "Numbers are the last one (at first the seed) times 1103515245 and 12345, without what is above 31 bits, by 65536":
-    // from 1 on these are 16838, 5758, 10113, 17515, 31051, 5627, 23010, 7419, 16212, 4086.
+    // 37: "Numbers are the last one (at first the seed) times 1103515245 and 12345, without what is above 31 bits,
+    // by 65536": from 1 on these are 16838, 5758, 10113, 17515, 31051, 5627, 23010, 7419, 16212, 4086.
     private static void promise37Numbers() {
         int[] times = {1, 1, 1, 1, 0, 1, 1, 1, 2, 1};
         for (int damp = 0; damp <= 9; damp++) {
@@ -817,8 +850,26 @@ public final class AskedEdgesTest {
                 .chance(1, 1, 1), 0);
     }
 
-    // 37: "numbers .. one behind another": from 1 on the second of each two, then 2749, 12767, 9084, 12060, 32225, 17543,
-    // 25089, 21183, 25137, 25566.
+    // 37: the same from many seeds on, the least and the greatest among them.
+    private static void promise37Seeds() {
+        int[] seeds = {0, 1, 2, 65535, 65536, 12345, 1103515245, 1073741823, 1073741824, MOST - 1, MOST};
+        for (int damp = 0; damp <= 9; damp++) {
+            CushionCourt court = Checks.court(feathers(1, 1, "law fly moist=" + damp + ";"), 7);
+            for (int seed : seeds) {
+                int times = 0;
+                BigInteger last = BigInteger.valueOf(seed);
+                for (int i = 0; i < 10; i++) {
+                    last = last.multiply(BigInteger.valueOf(1103515245)).add(BigInteger.valueOf(12345));
+                    last = last.mod(BigInteger.ONE.shiftLeft(31));
+                    times += last.intValue() / 65536 % 10 == damp ? 1 : 0;
+                }
+                due("37 seed " + seed + ", damp " + damp, court.chance(seed, 1, 1), times);
+            }
+        }
+    }
+
+    // 37: "numbers .. one behind another": from 1 on the second of each two, then 2749, 12767, 9084, 12060, 32225,
+    // 17543, 25089, 21183, 25137, 25566.
     private static void promise37OneBehindAnother() {
         int[] times = {1, 0, 0, 2, 0, 1, 2, 2, 1, 1};
         for (int damp = 0; damp <= 9; damp++) {
@@ -894,6 +945,9 @@ public final class AskedEdgesTest {
             due("38 damp as told, " + damp, damped.tried(0, 0, 6), 1 + damp / 3);
             due("38 beat 9 and damp " + damp, damped.tried(4, 0, 6), 8);
         }
+        CushionCourt dry = Checks.court(feathers(8, 1, "damp 5;law fly 2+moist;"), 2);
+        due("38 no damp in a law", dry.tried(1, 0, 6), 2);
+        due("38 damp in a law", dry.tried(4, 0, 6), 7);
         CushionCourt two = Checks.court(judges(2) + CONTRARY + "cause p a 1 1;cause q b 1 1;cause r b 2 1;beat 2;");
         due("38 the first hears nothing", two.tried(2, 0, 8), 2);
         due("38 the last hears nothing", two.tried(2, 1, 8), 1);

@@ -1,6 +1,6 @@
 /**
- * Boundary cases of a DAY (Terms, ==== 2; promise 16) and of promises 6 to 9 and 28, which tell what came of it: a method for
- * each sentence or part of one, which stands above it as a remark.
+ * Boundary cases of a DAY (Terms, ==== 2; promise 16) and of promises 6 to 9 and 28, which tell what came of it: a
+ * method for each sentence or part of one, which stands above it as a remark.
  */
 public final class DayEdgesTest {
     private static final Checks CHECKS = new Checks();
@@ -16,6 +16,7 @@ public final class DayEdgesTest {
         saidByNearness();
         featherIfNotAsThought();
         eightFeathers();
+        eightFeathersOfTheLastOne();
         roomAgain();
         mondaysOfTheWeek();
         heardAheadOfTheAiring();
@@ -115,8 +116,9 @@ public final class DayEdgesTest {
         for (int far = 0; far <= 12; far++) {
             int near = far < 10 ? 1 : 0;
             verdict("16 below by " + far, "judge a 50 5;cause p a 1 " + (50 - far) + ";", 0, near);
-            verdict("16 below by " + far + " with a law", "judge a 50 5;law think 0;cause p a 1 " + (50 - far) + ";", 0, near);
-            verdict("16 above by " + far + " with a law", "judge a 50 5;law think 0;cause p a 1 " + (50 + far) + ";", 0, near);
+            String law = "judge a 50 5;law think 0;cause p a 1 ";
+            verdict("16 below by " + far + " with a law", law + (50 - far) + ";", 0, near);
+            verdict("16 above by " + far + " with a law", law + (50 + far) + ";", 0, near);
             verdict("16 below, thought guilty", "judge a 50 5;law think 1;cause p a 1 " + (50 - far) + ";", 1, 1);
         }
     }
@@ -149,6 +151,20 @@ public final class DayEdgesTest {
                 due("16 fate of " + i + " of " + many, Checks.cause(court, i, 5), i < lost ? 3 : 1);
             }
         }
+    }
+
+    // The same in the last one of five cushions, and in two next to each other.
+    private static void eightFeathersOfTheLastOne() {
+        String judges = "judge b 50 0;judge c 50 0;judge d 50 0;judge e 50 0;";
+        CushionCourt last = Checks.court(judges + feathers(10, 1, ""), 2);
+        due("16 the fifth cushion", last.judge(4, 3), 8);
+        due("16 the lowest of the fifth", last.feather(4, 0), 2);
+        due("16 the top of the fifth", last.feather(4, 7), 9);
+        CushionCourt next = Checks.court(judges + feathers(9, 1, "cause z e 0 1;beat 0;"), 2);
+        next.exchange(3, 4);
+        due("16 nine in the fifth", next.judge(3, 3), 8);
+        due("16 one in the fourth", next.feather(4, 0), 9);
+        due("16 one in the fourth alone", next.feather(4, 1), -2);
     }
 
     // The same, if one got out ahead of the ninth: then there is room for it.
@@ -385,7 +401,8 @@ public final class DayEdgesTest {
 
     // 7: "NONE: no such ones".
     private static void promise7NoSuchOnes() {
-        CushionCourt court = Checks.court("judge a 11 1;judge b 22 2;judge c 33 3;judge d 44 4;judge e 55 5;cause p e 0 1;", 1);
+        CushionCourt court =
+                Checks.court("judge a 11 1;judge b 22 2;judge c 33 3;judge d 44 4;judge e 55 5;cause p e 0 1;", 1);
         due("7 judge 0", court.judge(0, 0), 11);
         due("7 judge -1", court.judge(-1, 0), -1);
         due("7 the fifth judge", court.judge(4, 0), 55);
@@ -429,7 +446,8 @@ public final class DayEdgesTest {
 
     // 9: "NONE: no such CLERK"; bits up to that of the tenth CASE.
     private static void promise9NoSuchClerk() {
-        CushionCourt court = Checks.court(feathers(10, 1, "beat 9;clerk a 1 0;clerk b 0 9;clerk c 1 1;clerk d 1 6;clerk e 1 9;"), 8);
+        CushionCourt court = Checks.court(
+                feathers(10, 1, "beat 9;clerk a 1 0;clerk b 0 9;clerk c 1 1;clerk d 1 6;clerk e 1 9;"), 8);
         due("9 the first clerk: the lowest feather", court.knows(0), 1 << 2);
         due("9 one who doesn't pass", court.knows(1), 0);
         due("9 the fifth clerk: the tenth case, too", court.knows(4), 0b1111111100);
@@ -455,7 +473,8 @@ public final class DayEdgesTest {
 
     // 28: bits up to that of the fifth CLERK, of the tenth CASE.
     private static void promise28Bits() {
-        CushionCourt court = Checks.court(feathers(10, 1, "clerk a 0 9;clerk b 1 6;clerk c 1 7;clerk d 2 9;clerk e 1 9;"), 8);
+        CushionCourt court =
+                Checks.court(feathers(10, 1, "clerk a 0 9;clerk b 1 6;clerk c 1 7;clerk d 2 9;clerk e 1 9;"), 8);
         due("28 the tenth case", court.gossip(9), 0b10100);
         due("28 the ninth case", court.gossip(8), 0);
         due("28 a lost one", court.gossip(0), 0);

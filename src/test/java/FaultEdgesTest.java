@@ -1,3 +1,5 @@
+import java.util.Arrays;
+
 /**
  * Boundary cases of the TEXT and its FAULTS (Terms, ==== 1), as promises 3 (text) and 4 (fault) tell them: a method
  * for each sentence or part of one, which stands above it as a remark.
@@ -43,6 +45,7 @@ public final class FaultEdgesTest {
         signsRightBehind();
         oneComparison();
         notOnlyAheadOfComparisons();
+        nothingIsLeftOfAFault();
         brackets();
         CHECKS.end("FaultEdgesTest");
     }
@@ -67,6 +70,11 @@ public final class FaultEdgesTest {
         fine("one line", "beat 1;");
         fault("no ; behind the last line", "damp 1;beat 1", 1, 13);
         fault("no ; behind a line ahead", "damp 1 beat 1;", 1, 7);
+        String[] others = {"+", "-", "*", "/", "(", ")", "<", "<=", "<>", "=", ">", ">=", ",", "a", "1 1", "or"};
+        for (String other : others) {
+            fault("another one where ; must stand", "beat 1 " + other + ";", 1, 7);
+            fault("another one where ; must stand, of a judge", "judge a 1 1 " + other, 1, 12);
+        }
         fault("a ; without a line", ";", 1, 0);
         fault("a second ;", "beat 1;;", 1, 7);
         fine("blanks around", "\n beat\n1 ; \n");
@@ -76,7 +84,8 @@ public final class FaultEdgesTest {
 
     // "1 .. can't stand there (the length, if more must come)": a text cut behind each of its bytes.
     private static void everyCut() {
-        String text = "judge a 40 6;cause pq a 12 35;clerk k 11 9;damp 3;beat 2;law think not(lean<=12 or day)and sure;";
+        String text = "judge a 40 6;cause pq a 12 35;clerk k 11 9;damp 3;beat 2;"
+                + "law think not(lean<=12 or day)and sure;";
         for (int n = 0; n <= text.length(); n++) {
             String cut = text.substring(0, n);
             if (cut.isEmpty() || cut.endsWith(";")) {
@@ -84,6 +93,16 @@ public final class FaultEdgesTest {
             } else {
                 fault("cut", cut, 1, placeOfCut(text, n));
             }
+            CushionCourt court = new CushionCourt();
+            Checks.feed(court, text);
+            CHECKS.due("3 cut, and more on the tape, " + cut, court.text(n) >= 0, cut.isEmpty() || cut.endsWith(";"));
+            CHECKS.due("4 cut, and more on the tape, " + cut, court.fault(1),
+                    cut.isEmpty() || cut.endsWith(";") ? -1 : placeOfCut(text, n));
+        }
+        String[] ends = {"beat 1", "beat", "law fly 1<", "law fly 1", "law fly lean", "judge a 1 1"};
+        for (String end : ends) {
+            String full = Checks.times(" ", 700 - end.length()) + end;
+            fault("the length of a full tape", full, 1, 700);
         }
         fault("the length counts blanks", "beat 1  \n", 1, 9);
         fault("the length behind a line's word", "beat", 1, 4);
@@ -102,7 +121,7 @@ public final class FaultEdgesTest {
         while (to < text.length() && Character.isLetter(text.charAt(to))) {
             to++;
         }
-        boolean isOfLanguage = java.util.Arrays.asList(LANGUAGE).contains(text.substring(from, to));
+        boolean isOfLanguage = Arrays.asList(LANGUAGE).contains(text.substring(from, to));
         return isOfLanguage && to > n && from < n ? from : n;
     }
 
@@ -233,6 +252,10 @@ public final class FaultEdgesTest {
         fine("N 0", "law fly 0;");
         fine("N 9999", "law fly 9999;");
         fault("N 10000", "law fly 10000;", 2, 8);
+        fault("N 9999 and a digit", "law fly 99990;", 2, 8);
+        fault("N 9999 and another digit", "law fly 99999;", 2, 8);
+        fault("N 9998 and a digit", "law fly 99980;", 2, 8);
+        fault("N 1000 and a digit", "law fly 10009;", 2, 8);
         fault("N 10000 as a right side", "law fly 9999+10000;", 2, 13);
         fault("N 10000 in brackets", "law fly (10000);", 2, 9);
     }
@@ -414,10 +437,24 @@ public final class FaultEdgesTest {
                 }
             }
         }
-        fault("a law of none", "law lean 1;", 1, 4);
+        for (String word : LANGUAGE) {
+            if (!Arrays.asList(laws).contains(word)) {
+                fault("a law of none", "law " + word + " 1;", 1, 4);
+            }
+        }
         fault("a law without its word", "law 1;", 1, 4);
-        CushionCourt court = Checks.court("law fly 1;");
-        CHECKS.due("3 a law of the text ahead isn't told", Checks.tell(court, "law fly 2;"), 1);
+        String numbers = "law 5 1;law 6 1;law 7 1;law 8 1;law 9 1;";
+        for (int i = 0; i < 5; i++) {
+            fault("a law of a number", numbers.substring(8 * i), 1, 4);
+        }
+        fault("a law of nothing", "law;", 1, 3);
+        fault("a law of a sign", "law + 1;", 1, 4);
+        for (String law : laws) {
+            CushionCourt court = Checks.court("law " + law + " 1;");
+            CHECKS.due("3 a law of the text ahead isn't told", Checks.tell(court, "law " + law + " 2;"), 1);
+            CHECKS.due("3 a fault with a law", Checks.tell(court, "law " + law + " 3;!"), -1);
+            CHECKS.due("3 a law of a text with a fault isn't told", Checks.tell(court, "law " + law + " 4;"), 1);
+        }
     }
 
     // "4 a JUDGE that isn't told ahead (at W)".
@@ -487,6 +524,24 @@ public final class FaultEdgesTest {
         fault("not behind )", "law fly (1)not 1;", 1, 11);
         fault("not alone", "law fly not;", 1, 11);
         fault("not ahead of and", "law fly not and 1;", 1, 12);
+    }
+
+    // A text with a fault leaves nothing behind for the next one: no open brackets, no signs, no KNOTS.
+    private static void nothingIsLeftOfAFault() {
+        String[] faults = {"law fly " + Checks.times("(", 8), "law fly 1+1*(1<(", "law fly not not not",
+            "law fly 1<2 and"};
+        String eight = "law fly " + Checks.times("(", 8) + "7" + Checks.times(")", 8) + ";judge a 1 1;";
+        for (String fault : faults) {
+            CushionCourt court = new CushionCourt();
+            CHECKS.due("3 " + fault, Checks.tell(court, fault), -1);
+            CHECKS.due("3 eight brackets behind " + fault, Checks.tell(court, eight), 2);
+            CHECKS.due("11 their value behind " + fault, court.law(2, 0), 7);
+            CHECKS.due("3 " + fault + " again", Checks.tell(court, fault), -1);
+            CHECKS.due("3 64 knots behind " + fault, Checks.tell(court, FULL + ";judge a 1 1;"), 2);
+            CHECKS.due("11 64 knots behind " + fault, court.law(2, 0), 0);
+            CHECKS.due("3 " + fault + " once more", Checks.tell(court, fault), -1);
+            CHECKS.due("3 one more closed behind " + fault, Checks.tell(court, "law fly 1);"), -1);
+        }
     }
 
     // "P: N | NAME | '(' E ')'".

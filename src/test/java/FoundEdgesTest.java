@@ -27,6 +27,7 @@ public final class FoundEdgesTest {
         promise34AsTheyAreNow();
         promise35NoSuchJudge();
         promise35Bits();
+        promise35OneWay();
         promise35NoWay();
         CHECKS.end("FoundEdgesTest");
     }
@@ -284,6 +285,21 @@ public final class FoundEdgesTest {
         due("35 who has it now", court.whose(0), 1);
         due("35 who has the others now", court.whose(4), 30);
         due("34 ways", court.ways(), 24);
+    }
+
+    // 35: just one way for each: two judges of whom nothing is found, three of whom all is.
+    private static void promise35OneWay() {
+        CushionCourt two = Checks.court("judge a 1 1;judge b 1 1;");
+        due("35 one way for each of two", two.whose(0), 3);
+        due("35 one way for each of two, the other", two.whose(1), 3);
+        due("35 one judge", Checks.court("judge a 1 1;").whose(0), 1);
+        CushionCourt court = Checks.court(THREE, 2);
+        court.find(0, 1, true);
+        court.find(1, 2, true);
+        due("34 the only way", court.ways(), 1);
+        due("35 the only way, first", court.whose(0), 4);
+        due("35 the only way, second", court.whose(1), 1);
+        due("35 the only way, third", court.whose(2), 2);
     }
 
     // 35: no way at all: nobody's, of each judge, also of one of whom nothing is found.

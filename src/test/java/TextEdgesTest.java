@@ -176,7 +176,8 @@ public final class TextEdgesTest {
 
     /** A court with something of everything: a day, feathers, what is kept in, found, known, done, an image. */
     private static CushionCourt busy() {
-        CushionCourt court = Checks.court("judge a 50 6;judge b 40 0;cause p a 0 45;cause q b 9 9;clerk k 1 9;beat 0;", 2);
+        CushionCourt court =
+                Checks.court("judge a 50 6;judge b 40 0;cause p a 0 45;cause q b 9 9;clerk k 1 9;beat 0;", 2);
         court.keep();
         court.find(0, 0, true);
         court.find(0, 1, true);
@@ -219,6 +220,12 @@ public final class TextEdgesTest {
         due("3 anew: no clerks", court.knows(0), -1);
         court.days(1);
         due("3 anew: beat is 1 again", court.count(8), 1);
+        CushionCourt none = Checks.court("judge a 50 6;cause p a 0 45;");
+        none.known(0);
+        Checks.tell(none, "judge a 50 6;cause p a 0 45;");
+        none.find(0, 0, true);
+        due("3 anew: all known, though none was", none.ways(), 0);
+        due("3 anew: all known, count", none.count(11), 1);
         CushionCourt known = Checks.court("judge a 50 6;cause p a 0 45;clerk k 1 9;law fly 1;", 1);
         due("3 ahead: the clerk knows", known.knows(0), 1);
         Checks.tell(known, "judge a 50 6;cause p a 0 45;clerk k 1 9;");
@@ -291,7 +298,8 @@ public final class TextEdgesTest {
 
     // 5: "The number of a JUDGE (what 0), CASE (1), CLERK (2)"; "NONE: there is none such".
     private static void promise5AnotherWhat() {
-        CushionCourt court = Checks.court("judge b 1 1;judge a 1 1;cause c b 1 1;cause d b 1 1;cause a b 1 1;clerk a 1 1;");
+        CushionCourt court =
+                Checks.court("judge b 1 1;judge a 1 1;cause c b 1 1;cause d b 1 1;cause a b 1 1;clerk a 1 1;");
         int a = Checks.letters("a");
         due("5 what 0", court.named(0, a), 1);
         due("5 what 1", court.named(1, a), 2);
@@ -304,7 +312,8 @@ public final class TextEdgesTest {
 
     // 5: "5 bits each (a is 1; the first one highest of six ..)".
     private static void promise5OneToSixLetters() {
-        CushionCourt court = Checks.court("judge a 1 1;judge z 1 1;judge abcdef 1 1;judge zzzzzz 1 1;judge aaaaaa 1 1;");
+        CushionCourt court =
+                Checks.court("judge a 1 1;judge z 1 1;judge abcdef 1 1;judge zzzzzz 1 1;judge aaaaaa 1 1;");
         due("5 a is 1", court.named(0, 1 << 25), 0);
         due("5 z is 26", court.named(0, 26 << 25), 1);
         due("5 six letters", court.named(0, 1 << 25 | 2 << 20 | 3 << 15 | 4 << 10 | 5 << 5 | 6), 2);

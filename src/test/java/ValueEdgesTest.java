@@ -5,6 +5,7 @@ public final class ValueEdgesTest {
     private static final long FARTHEST = 1000000000000L;
 
     public static void main(String[] args) {
+        nextOfEach();
         oneOrZero();
         whatIsNotZero();
         bothSides();
@@ -30,6 +31,36 @@ public final class ValueEdgesTest {
 
     private static void error(String e) {
         due(e, Checks.ERROR);
+    }
+
+    // "E: A { or A }. A: B { and B }. .. T: P { ( * | / ) P }": each one next to the one that binds more.
+    private static void nextOfEach() {
+        due("1 or 0 and 0", 1);
+        due("0 and 0 or 1", 1);
+        due("(1 or 0) and 0", 0);
+        due("0 and (0 or 1)", 0);
+        due("not 0 and 0", 0);
+        due("not (0 and 0)", 1);
+        due("not 1 or 1", 1);
+        due("not (1 or 1)", 0);
+        due("not 1 < 1", 1);
+        due("not 2 = 0", 1);
+        due("(not 2) = 0", 1);
+        due("not 3 = 1", 1);
+        due("(not 3) = 1", 0);
+        due("1 < 1 + 1", 1);
+        due("(1 < 1) + 1", 1);
+        due("2 + 1 < 3", 0);
+        due("2 + (1 < 3)", 3);
+        due("2 + 3 * 4", 14);
+        due("(2 + 3) * 4", 20);
+        due("2 * 3 + 4", 10);
+        due("9 - 8 / 4", 7);
+        due("9 - 3 - 2", 4);
+        due("9 - (3 - 2)", 8);
+        due("16 / 4 / 2", 2);
+        due("16 / (4 / 2)", 8);
+        due("16 / 4 * 2", 8);
     }
 
     // "comparisons, and, or, not are 1 or 0": just below, alike and just above.
@@ -185,8 +216,8 @@ public final class ValueEdgesTest {
 
     // NAMES with the least and the greatest numbers that a text may tell.
     private static void namesAtTheirEnds() {
-        CushionCourt court = Checks.court("judge a 99 9;judge b 0 0;cause p a 0 0;cause q b 0 99;cause r b 9 0;damp 9;damp 0;"
-                + "law think lean*100*100+stiff*1000+moist*100+sure;law say grave*100+day;");
+        CushionCourt court = Checks.court("judge a 99 9;judge b 0 0;cause p a 0 0;cause q b 0 99;cause r b 9 0;"
+                + "damp 9;damp 0;law think lean*100*100+stiff*1000+moist*100+sure;law say grave*100+day;");
         CHECKS.due("11 lean 99, stiff 9, moist 9, sure 99", court.law(0, 0), 999999);
         CHECKS.due("11 lean 0, stiff 0, sure 99", court.law(0, 1), 999);
         CHECKS.due("11 lean 0, stiff 0, sure 0", court.law(0, 2), 900);
@@ -216,6 +247,10 @@ public final class ValueEdgesTest {
 
     // "grave: .. (of fly 0)"; "sure: .. (of fly 0)".
     private static void namesOfFly() {
+        CushionCourt names = Checks.court("judge a 40 6;judge b 0 0;judge c 99 9;law fly lean*10+stiff;");
+        CHECKS.due("11 fly has lean and stiff", names.law(2, 0), 406);
+        CHECKS.due("11 fly has lean 0 and stiff 0", names.law(2, 1), 0);
+        CHECKS.due("11 fly has lean 99 and stiff 9", names.law(2, 2), 999);
         CushionCourt court = Checks.court("judge a 40 6;cause p a 0 90;damp 7;law fly grave*1000+sure*100+day;"
                 + "law think grave*1000+sure*100+day;");
         CHECKS.due("11 think has grave and sure", court.law(0, 0), 95000);
