@@ -46,6 +46,7 @@ public final class FaultEdgesTest {
         oneComparison();
         notOnlyAheadOfComparisons();
         nothingIsLeftOfAFault();
+        nothingIsLeftOfManyFaults();
         brackets();
         CHECKS.end("FaultEdgesTest");
     }
@@ -542,6 +543,17 @@ public final class FaultEdgesTest {
             CHECKS.due("3 " + fault + " once more", Checks.tell(court, fault), -1);
             CHECKS.due("3 one more closed behind " + fault, Checks.tell(court, "law fly 1);"), -1);
         }
+    }
+
+    // The same, if many texts with a fault come one behind another.
+    private static void nothingIsLeftOfManyFaults() {
+        CushionCourt court = new CushionCourt();
+        for (int i = 0; i < 40; i++) {
+            CHECKS.due("3 open brackets", Checks.tell(court, "law fly " + Checks.times("(", 8) + "1+"), -1);
+        }
+        CHECKS.due("3 behind forty faults", Checks.tell(court, FULL + ";judge a 1 1;"), 2);
+        CHECKS.due("11 behind forty faults", court.law(2, 0), 0);
+        CHECKS.due("42 behind forty faults", court.count(3), 64);
     }
 
     // "P: N | NAME | '(' E ')'".
