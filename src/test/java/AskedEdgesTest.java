@@ -38,6 +38,7 @@ public final class AskedEdgesTest {
         promise20FirstSix();
         promise20FirstOfSeveral();
         promise20Sum();
+        promise20BehindALargerText();
         promise21NoSuchOnes();
         promise21LeastTerms();
         promise21Today();
@@ -440,6 +441,18 @@ public final class AskedEdgesTest {
         due("20 greatest sum", Checks.court(text.toString()).given(6), 594);
         String above = text.toString().replace(" 99 0;", " 0 0;").replace(" 1 0;", " 1 99;");
         due("20 greatest sum, above", Checks.court(above).given(6), 594);
+    }
+
+    // 20: all have two, behind a text in which others had room still: nothing of that one counts.
+    private static void promise20BehindALargerText() {
+        for (int many = 1; many <= 3; many++) {
+            CushionCourt court = Checks.court(judges(5) + cases("e", 6, 1));
+            due("20 sum of the larger text", court.given(6), 240);
+            Checks.tell(court, judges(many) + cases("a", 2 * many, 1));
+            due("20 sum of a text of " + many, court.given(6), 80 * many);
+            due("20 first of a text of " + many, court.given(0), 0);
+            due("20 last of a text of " + many, court.given(2 * many - 1), many - 1);
+        }
     }
 
     // 21: "NONE: no such ones".
